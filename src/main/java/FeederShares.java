@@ -758,8 +758,8 @@ public final class FeederShares {
 
         private int afterBlanks(int from) {
             int i = from;
-            for (; i < length && (signAt(i) == 10 || signAt(i) == 32); i++) {
-                continue;
+            while (i < length && (signAt(i) == 10 || signAt(i) == 32)) {
+                i++;
             }
             return i;
         }
@@ -949,11 +949,12 @@ public final class FeederShares {
             if (rank(token) != COMPARES) {
                 return false;
             }
-            int i = waits - 1;
-            for (; i >= 0 && rank(waiting.get(i)) > COMPARES; i--) {
-                continue;
+            for (int i = waits - 1; i >= 0 && rank(waiting.get(i)) >= COMPARES; i--) {
+                if (rank(waiting.get(i)) == COMPARES) {
+                    return true;
+                }
             }
-            return i >= 0 && rank(waiting.get(i)) == COMPARES;
+            return false;
         }
 
         /** Answers whether a PART is due behind it. */
@@ -1274,9 +1275,26 @@ public final class FeederShares {
             fault = 0;
             tape.begin();
             for (int line = 0; line < MOST_SIGNS && fault == 0 && !tape.isEnd(); line++) {
-                takeWorkLine(plan, draft);
+                Word word = tape.word();
+                if (!beginsLine(word)) {
+                    wrong(OUT_OF_PLACE);
+                } else if (draft.many >= MOST_LINES) {
+                    wrong(ONE_TOO_MANY);
+                } else if (word == Word.READ) {
+                    takeReading(plan, draft);
+                } else if (word == Word.MOVE) {
+                    takeMove(plan, draft);
+                } else if (word == Word.TOTAL) {
+                    takeTotal(plan, draft);
+                } else {
+                    takeRun(draft);
+                }
             }
             return fault;
+        }
+
+        private static boolean beginsLine(Word word) {
+            return word == Word.READ || word == Word.MOVE || word == Word.TOTAL || word == Word.RUN;
         }
 
         private boolean takeSlots(Plan draft) {
@@ -1383,30 +1401,8 @@ public final class FeederShares {
             return kind == 0 ? takeEnd() : wrong(kind);
         }
 
-        private boolean takeWorkLine(Plan plan, Lines draft) {
-            Word word = tape.word();
-            boolean begins = word == Word.READ || word == Word.MOVE || word == Word.TOTAL || word == Word.RUN;
-            if (!begins) {
-                return wrong(OUT_OF_PLACE);
-            }
-            if (draft.many >= MOST_LINES) {
-                return wrong(ONE_TOO_MANY);
-            }
-            tape.advance();
-            if (word == Word.READ) {
-                return takeReading(plan, draft);
-            }
-            if (word == Word.MOVE) {
-                return takeMove(plan, draft);
-            }
-            if (word == Word.TOTAL) {
-                return takeTotal(plan, draft);
-            }
-            draft.addLine(RUNNING, 0, 0, 0);
-            return takeEnd();
-        }
-
         private boolean takeReading(Plan plan, Lines draft) {
+            tape.advance();
             if (!takeName() || !isFound(plan.findMeter(name))) {
                 return false;
             }
@@ -1423,6 +1419,7 @@ public final class FeederShares {
         }
 
         private boolean takeMove(Plan plan, Lines draft) {
+            tape.advance();
             if (!takeName() || !isFound(plan.findMeter(name))) {
                 return false;
             }
@@ -1435,6 +1432,7 @@ public final class FeederShares {
         }
 
         private boolean takeTotal(Plan plan, Lines draft) {
+            tape.advance();
             if (!takeNumber(0, plan.slots - 1)) {
                 return false;
             }
@@ -1443,6 +1441,12 @@ public final class FeederShares {
                 return false;
             }
             draft.addLine(TOTALLING, slot, number, 0);
+            return takeEnd();
+        }
+
+        private boolean takeRun(Lines draft) {
+            tape.advance();
+            draft.addLine(RUNNING, 0, 0, 0);
             return takeEnd();
         }
 
@@ -1765,7 +1769,7 @@ public final class FeederShares {
         private static final int DEED = 0;
         private static final int METER = 1;
         private static final int PLACE = 2;
-        private static final int SAID = 3;
+        private static final int WAS = 3;
         private static final int SUPPLIERS = 4;
         private static final int WIDTH = SUPPLIERS + MOST_SLOTS;
 
@@ -1782,7 +1786,8 @@ public final class FeederShares {
             entries.set(at + DEED, deed);
             entries.set(at + METER, meter);
             entries.set(at + PLACE, place);
-            entries.set(at + SAID, deed == TOTALLING ? ledger.feeder.get(place) : ledger.saidAt(meter, place));
+            int was = deed == TOTALLING ? ledger.feeder.get(place) : ledger.saidAt(meter, place);
+            entries.set(at + WAS, was);
             for (int slot = 0; slot < MOST_SLOTS; slot++) {
                 entries.set(at + SUPPLIERS + slot, ledger.supplierAt(meter, slot));
             }
@@ -1799,13 +1804,13 @@ public final class FeederShares {
             int place = entries.get(at + PLACE);
             switch (entries.get(at + DEED)) {
                 case READING:
-                    ledger.setSaid(meter, place, entries.get(at + SAID));
+                    ledger.setSaid(meter, place, entries.get(at + WAS));
                     break;
                 case MOVING:
                     giveBackSuppliers(ledger, meter, at + SUPPLIERS);
                     break;
                 case TOTALLING:
-                    ledger.feeder.set(place, entries.get(at + SAID));
+                    ledger.feeder.set(place, entries.get(at + WAS));
                     break;
                 default:
                     ledger.runs--;
