@@ -1248,23 +1248,24 @@ public final class FeederShares {
             fault = 0;
             feederTold = false;
             lawTold = false;
+            boolean well = true;
             tape.begin();
-            for (int line = 0; line < MOST_SIGNS && fault == 0 && !tape.isEnd(); line++) {
+            for (int line = 0; line < MOST_SIGNS && well && !tape.isEnd(); line++) {
                 Word word = tape.word();
                 if (word == Word.SLOTS) {
-                    takeSlots(draft);
+                    well = takeSlots(draft);
                 } else if (word == Word.FEEDER) {
-                    takeFeeder(draft);
+                    well = takeFeeder(draft);
                 } else if (word == Word.CLASS) {
-                    takeClass(draft);
+                    well = takeClass(draft);
                 } else if (word == Word.SUPPLIER) {
-                    takeSupplier(draft);
+                    well = takeSupplier(draft);
                 } else if (word == Word.METER) {
-                    takeMeter(draft);
+                    well = takeMeter(draft);
                 } else if (word == Word.SMEARS) {
-                    takeLaw(draft);
+                    well = takeLaw(draft);
                 } else {
-                    wrong(OUT_OF_PLACE);
+                    well = wrong(OUT_OF_PLACE);
                 }
             }
             return fault;
@@ -1273,21 +1274,22 @@ public final class FeederShares {
         int takeWork(Plan plan, Lines draft) {
             draft.many = 0;
             fault = 0;
+            boolean well = true;
             tape.begin();
-            for (int line = 0; line < MOST_SIGNS && fault == 0 && !tape.isEnd(); line++) {
+            for (int line = 0; line < MOST_SIGNS && well && !tape.isEnd(); line++) {
                 Word word = tape.word();
                 if (!beginsLine(word)) {
-                    wrong(OUT_OF_PLACE);
+                    well = wrong(OUT_OF_PLACE);
                 } else if (draft.many >= MOST_LINES) {
-                    wrong(ONE_TOO_MANY);
+                    well = wrong(ONE_TOO_MANY);
                 } else if (word == Word.READ) {
-                    takeReading(plan, draft);
+                    well = takeReading(plan, draft);
                 } else if (word == Word.MOVE) {
-                    takeMove(plan, draft);
+                    well = takeMove(plan, draft);
                 } else if (word == Word.TOTAL) {
-                    takeTotal(plan, draft);
+                    well = takeTotal(plan, draft);
                 } else {
-                    takeRun(draft);
+                    well = takeRun(draft);
                 }
             }
             return fault;

@@ -210,6 +210,7 @@ public final class HandTest {
         Check.due("no line can't be", -1, x.judged(0));
         Check.due("slot 1 alone is smeared", 7, x.judged(2));
         Check.work(x, "read m 0 3 ; total 1 20 ; run ; move m s 1 ;");
+        Check.due("each line can be", -1, x.judged(0));
         Check.due("a run", 1, x.judged(1));
         Check.due("both slots", 30, x.judged(2));
         Check.refused("no such what", () -> x.judged(3));

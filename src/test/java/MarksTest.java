@@ -6,6 +6,8 @@ public final class MarksTest {
 
     public static void main(String[] args) {
         markHoldsAll();
+        marksHoldRuns();
+        marksHoldWhatIsSeen();
         marksAreTwo();
         markIsKept();
         others();
@@ -59,6 +61,48 @@ public final class MarksTest {
         Check.due("the work is not held", 2, x.count(7));
         Check.due("nothing can be undone", 0, x.count(9));
         Check.due("nothing can be undone", false, x.undo());
+    }
+
+    private static void marksHoldRuns() {
+        FeederShares x = Check.told(GRID);
+        x.mark(0, false);
+        x.read(0, 0, 20);
+        x.move(0, 1, 2);
+        x.run();
+        x.mark(1, false);
+        Check.due("back to no run", true, x.mark(0, true));
+        Check.due("no run", 0, x.count(5));
+        Check.due("no accounts", 0, x.accounts());
+        x.move(2, 1, 0);
+        x.move(0, 1, 0);
+        x.read(2, 0, 20);
+        x.run();
+        Check.due("another run", 100, x.settled(0, 1, 0));
+        Check.due("another order", 1, x.account(0, 0));
+        Check.due("one account", 1, x.accounts());
+        Check.due("back to the run", true, x.mark(1, true));
+        Check.due("a has all of slot 0", 100, x.settled(0, 0, 0));
+        Check.due("and nothing then", 0, x.settled(0, 1, 0));
+        Check.due("the accounts", 2, x.accounts());
+        Check.due("the first one", 0, x.account(0, 0));
+        Check.due("slots 0 and 1", 150, x.account(0, 2));
+        Check.due("slots 2 and 3", 60, x.owes(1, 0));
+    }
+
+    private static void marksHoldWhatIsSeen() {
+        FeederShares x = Check.told(GRID);
+        x.read(0, 0, 20);
+        x.mark(0, false);
+        x.see(0, 100, true);
+        Check.due("x alone", 1, x.who());
+        x.mark(1, false);
+        x.mark(0, true);
+        Check.due("nothing is seen", 0, x.count(8));
+        Check.due("both", 3, x.who());
+        x.see(1, -5, false);
+        Check.due("neither", 0, x.who());
+        x.mark(1, true);
+        Check.due("x alone again", 1, x.who());
     }
 
     private static void marksAreTwo() {

@@ -107,8 +107,19 @@ public final class RunsTest {
         Check.due("s again", 15, x.account(0, 2));
         x.undo();
         x.undo();
+        x.read(0, 0, 8);
+        x.move(1, 0, 0);
+        x.undo();
+        x.undo();
         x.undo();
         Check.due("none again", 0, x.accounts());
+        x.move(0, 1, 0);
+        x.move(1, 1, 0);
+        x.run();
+        Check.due("one, of a new run", 1, x.accounts());
+        Check.due("t", 1, x.account(0, 0));
+        Check.due("all", 30, x.account(0, 2));
+        Check.due("no more", 0, x.owes(0, 0));
     }
 
     private static void accountsOfNothing() {

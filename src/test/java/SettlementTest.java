@@ -81,6 +81,21 @@ public final class SettlementTest {
     }
 
     private static void useOfWeightlessProfiles() {
+        FeederShares y = Check.told("slots 4 ; class j loss 0 profile 7 1 ; class k loss 0 profile 5 0 0 0 ; supplier s ; "
+                + "meter m register class k with s ; meter n register class j with s ;");
+        y.read(0, 1, 20);
+        y.read(0, 3, 30);
+        Check.due("each 1", 5, y.use(0, 1));
+        Check.due("each 1", 5, y.use(0, 2));
+        Check.due("no place behind", 0, y.use(0, 3));
+        Check.due("no place ahead", 0, y.use(0, 0));
+        Check.due("stands between", 25, y.stands(0, 2));
+        y.read(1, 0, 9000);
+        Check.due("no place behind", 0, y.use(1, 2));
+        y.read(1, 2, 9080);
+        Check.due("by its own class", 70, y.use(1, 0));
+        Check.due("stands behind place 0", 9070, y.stands(1, 1));
+        Check.due("stands behind the last", -1, y.stands(1, 3));
         FeederShares x = Check.told("slots 4 ; class k loss 0 profile 0 0 5 ; supplier s ; meter m register class k with s ;");
         x.read(0, 0, 0);
         x.read(0, 2, 5);

@@ -11,6 +11,7 @@ public final class TapeTest {
         gridTakesTheTape();
         gridTakesAllPlace();
         gridBeginsAnew();
+        gridForgetsTheOneAhead();
         gridFaults();
         gridNameFaults();
         gridCountFaults();
@@ -138,6 +139,25 @@ public final class TapeTest {
         Check.due("the feeder as told", 0, x.residual(0));
     }
 
+    private static void gridForgetsTheOneAhead() {
+        String grid = "slots 1 ; class k loss 0 profile 0 ; class l loss 0 profile 0 ; supplier s ; meter m flat class k with s ; ";
+        FeederShares x = Check.told(grid + "meter n flat class k with s ; meter o flat class l with s ; feeder 9 ; smears many ;");
+        Check.due("by two of three meters", 6, x.smear(0, 0));
+        Check.feed(x, grid + "meter o flat class l with s ; feeder 8 ; smears many ;");
+        Check.due("feeder and smears again, but once a grid", 0, x.grid());
+        Check.due("by one of two meters", 4, x.smear(0, 0));
+        Check.feed(x, grid);
+        Check.due("no feeder, no smears", 0, x.grid());
+        Check.due("the feeder of the one ahead is forgotten", 0, x.residual(0));
+        x.total(0, 5);
+        Check.due("its smears, too", 0, x.smear(0, 0));
+        Check.feed(x, "feeder 7 ; smears 1 ; slots 1 ; oh");
+        Check.due("a fault", 1 + 16 * 32, x.grid());
+        Check.feed(x, "feeder 7 ; smears 1 ; slots 1 ;");
+        Check.due("none behind it", 0, x.grid());
+        Check.due("the feeder", 7, x.residual(0));
+    }
+
     private static void gridFaults() {
         Check.gridFault(1, 0, "grid");
         Check.gridFault(1, 0, ";");
@@ -151,6 +171,7 @@ public final class TapeTest {
         Check.gridFault(4, 6, "slots 13 ;");
         Check.gridFault(1, 8, "slots 2 3 ;");
         Check.gridFault(3, 10, "slots 2 ; slots 2 ;");
+        Check.gridFault(3, 10, "slots 1 ; slots 2 ;");
         Check.gridFault(3, 11, "feeder 2 ; feeder");
         Check.gridFault(3, 11, "smears 2 ; smears");
         Check.gridFault(1, 7, "feeder ;");
@@ -409,6 +430,7 @@ public final class TapeTest {
         Check.workFault(x, 4, 11, "move mm ss 3 ;");
         Check.workFault(x, 1, 6, "total mm");
         Check.workFault(x, 0, 0, "total 2 9999 ;");
+        Check.workFault(x, 0, 0, "total 0 0 ; move mm ss 0 ; read mm 0 0 ; read nn 0 0 ;");
         Check.workFault(x, 4, 6, "total 3 0 ;");
         Check.workFault(x, 1, 8, "total 2 ;");
         Check.workFault(x, 5, 150, "run ;".repeat(30) + "run ;");
