@@ -51,7 +51,6 @@ public final class FeederShares {
 
     private static final Word[] WORDS = Word.values();
 
-    private final Tape tape;
     private final Reader reader;
     private final Plan plan;
     private final Plan draft;
@@ -70,8 +69,7 @@ public final class FeederShares {
     private int books;
 
     public FeederShares() {
-        tape = new Tape();
-        reader = new Reader(tape);
+        reader = new Reader();
         plan = new Plan();
         draft = new Plan();
         lines = new Lines();
@@ -89,15 +87,15 @@ public final class FeederShares {
     // ---- the TAPE, the GRID, the WORK
 
     public int feed(long a, long b, long c) {
-        tape.addBytes(a);
-        tape.addBytes(b);
-        tape.addBytes(c);
-        return tape.length;
+        reader.tape.addBytes(a);
+        reader.tape.addBytes(b);
+        reader.tape.addBytes(c);
+        return reader.tape.length;
     }
 
     public int grid() {
         int fault = reader.takeGrid(draft);
-        tape.clear();
+        reader.tape.clear();
         if (fault == 0) {
             plan.copyFrom(draft);
             startAnew();
@@ -116,7 +114,7 @@ public final class FeederShares {
 
     public int work() {
         int fault = reader.takeWork(plan, draftLines);
-        tape.clear();
+        reader.tape.clear();
         if (fault == 0) {
             lines.copyFrom(draftLines);
         }
@@ -590,7 +588,7 @@ public final class FeederShares {
             case 9:
                 return past.many;
             case 10:
-                return tape.length;
+                return reader.tape.length;
             default:
                 return NONE;
         }
@@ -1229,7 +1227,7 @@ public final class FeederShares {
 
     /** Reads the TAPE as a GRID or a WORK, up to the first FAULT. */
     private static final class Reader {
-        private final Tape tape;
+        private final Tape tape = new Tape();
         private final Row series = new Row(MOST_SLOTS);
         private int many;
         private int number;
@@ -1238,10 +1236,6 @@ public final class FeederShares {
         private int fault;
         private boolean feederTold;
         private boolean lawTold;
-
-        Reader(Tape tape) {
-            this.tape = tape;
-        }
 
         int takeGrid(Plan draft) {
             draft.clear();
