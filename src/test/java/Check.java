@@ -3,6 +3,8 @@ import java.util.NoSuchElementException;
 
 /** What the tests share: what is due, what throws, and texts brought to the TAPE. */
 final class Check {
+    private static final String MORE_FAULTS = " what ; slots 13 ; total 9999 0 ; ?";
+
     private static int checks = 0;
     private static int wrong = 0;
 
@@ -71,6 +73,41 @@ final class Check {
     static void workFault(FeederShares x, int kind, int place, String text) {
         feed(x, text);
         due("the fault of the work «" + text + "»", kind == 0 ? 0 : kind + 16 * place, x.work());
+    }
+
+    static void same(String what, String want, String got) {
+        checks++;
+        if (!want.equals(got)) {
+            wrong++;
+            System.out.println(what + ": is\n" + got + "\nand was\n" + want);
+        }
+    }
+
+    static int wrong() {
+        return wrong;
+    }
+
+    /**
+     * A GRID's FAULT at the sign @, which marks a place and is taken out; kind 0: none. More FAULTS
+     * behind it change nothing.
+     */
+    static void grid(int kind, String marked) {
+        String text = marked.replace("@", "");
+        int place = Math.max(0, marked.indexOf('@'));
+        gridFault(kind, place, text);
+        if (kind != 0 && place < text.length()) {
+            gridFault(kind, place, text + MORE_FAULTS);
+        }
+    }
+
+    /** A WORK's FAULT, likewise. */
+    static void work(FeederShares x, int kind, String marked) {
+        String text = marked.replace("@", "");
+        int place = Math.max(0, marked.indexOf('@'));
+        workFault(x, kind, place, text);
+        if (kind != 0 && place < text.length()) {
+            workFault(x, kind, place, text + MORE_FAULTS);
+        }
     }
 
     static void end(String name) {
