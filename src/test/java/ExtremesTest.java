@@ -31,7 +31,7 @@ public final class ExtremesTest {
             System.out.println("the grid is wrong: " + grid);
             System.exit(1);
         }
-        for (int i = 0; i < 500; i++) {
+        for (int i = 0; i < 450; i++) {
             int a = number();
             int b = number();
             int c = number();

@@ -10,6 +10,11 @@ public final class FaultsLikeTheModelTest {
             FeederShares x = new FeederShares();
             Model y = new Model();
             for (int i = 0; i < 20; i++) {
+                if (i % 4 == 0) {
+                    // An object is used for at most 512 calls.
+                    x = new FeederShares();
+                    y = new Model();
+                }
                 String grid = i % 4 == 3 ? "smears " + tapes.law(0) + " ;" : tapes.grid();
                 kinds[compare(x, y, grid, true, seed) % 16]++;
                 kinds[compare(x, y, tapes.work(), false, seed) % 16]++;
