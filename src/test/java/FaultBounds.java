@@ -461,6 +461,10 @@ final class FaultBounds {
         Check.due("one slot", 1, x.count(0));
         Check.due("what its feeder brought", 4, x.residual(0));
         lawsOneBehindAnother();
+        for (String grid : new String[] {TapeBounds.BASE, HandBounds.TWO, "slots 1 ; feeder 9 ; class k loss 0 profile 0 ; class l loss 7 profile 1 ; "
+            + "supplier s ; meter m flat class l with s ; meter n flat class k with s ; smears 1 ;"}) {
+            Check.same("as of a new object", deeds(new FeederShares(), grid), deeds(full(), grid));
+        }
         FeederShares z = Check.told("slots 1 ; class a loss 0 profile 0 ; class b loss 0 profile 0 ; supplier s ; "
                 + "meter m flat class a with s ; meter n flat class a with s ; meter o flat class b with s ; smears many ;");
         Check.feed(z, "slots 1 ; feeder 8 ; class a loss 0 profile 0 ; class b loss 0 profile 0 ; supplier s ; "
@@ -473,6 +477,45 @@ final class FaultBounds {
         Check.due("a grid with a fault", 3 + 16 * 44, y.grid());
         Check.same("all stays then", ahead, Snapshot.of(y));
         Check.due("marks, too", true, y.mark(1, true));
+    }
+
+    /** An object in which all that there can be is there, and is great. */
+    private static FeederShares full() {
+        StringBuilder grid = new StringBuilder("slots 12 ; feeder 9999 9998 9997 9996 9995 9994 9993 9992 9991 9990 9989 9988 ; smears many * 9 + load ;");
+        for (char name = 'a'; name <= 'd'; name++) {
+            grid.append("class ").append(name).append(" loss 99").append(name - 'a').append(" profile 99 9 ; supplier s").append(name).append(" ;");
+        }
+        for (int meter = 0; meter < 6; meter++) {
+            grid.append("meter ").append("efghij".charAt(meter)).append(" register class ").append("aaabcd".charAt(meter)).append(" with sa ;");
+        }
+        FeederShares x = Check.told(grid.toString());
+        for (int meter = 0; meter < 6; meter++) {
+            for (int place = 0; place <= 12; place++) {
+                x.read(meter, place, 9000 - place * 700 - meter);
+            }
+            x.move(meter, meter % 4, 5);
+        }
+        for (int run = 0; run < 4; run++) {
+            x.run();
+        }
+        for (int i = 0; i < 8; i++) {
+            x.see(11 - i, 9999 - i, i % 2 == 0);
+        }
+        x.mark(0, false);
+        x.mark(1, false);
+        Check.work(x, "run ;".repeat(30));
+        x.heaviest();
+        return x;
+    }
+
+    private static String deeds(FeederShares x, String grid) {
+        Check.feed(x, grid);
+        StringBuilder b = new StringBuilder(x.grid() + " " + x.lost() + " " + x.worst() + " " + x.ask() + "\n" + Snapshot.of(x));
+        x.read(0, 0, 5);
+        x.run();
+        b.append('\n').append(Snapshot.of(x)).append('\n').append(x.lost()).append(' ').append(x.net(0, 0));
+        b.append(' ').append(x.bears(0)).append(' ').append(x.days(5, 5, 0)).append(' ').append(x.heaviest()).append(' ').append(x.judged(2));
+        return b.toString();
     }
 
     /** Whatever the E of one GRID was, and wherever its FAULT, that of the next one is read as by a new object. */

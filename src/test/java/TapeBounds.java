@@ -160,6 +160,8 @@ final class TapeBounds {
         Check.grid(1, "slots @12345 ;");
         Check.grid(1, "smears 1 + @123456789 ;");
         Check.grid(1, "smears 1 @notnotnot ;");
+        Check.grid(1, "smears 1 ; supplier a @abcdefghi supplier b ;");
+        Check.grid(1, "smears ( 1 ) ; slots 2 @12345 supplier b ;");
     }
 
     // ---- the lines of a GRID
@@ -241,6 +243,10 @@ final class TapeBounds {
         Check.refused("beyond the last slot", () -> x.residual(2));
         Check.due("it is no slot's worst", 1, x.worst());
         Check.due("nobody has it", 11, x.sum(0));
+        FeederShares u = Check.told("slots 2 ; feeder 10 10 7 ; class k loss 0 profile 0 ; supplier s ; supplier t ; "
+                + "meter m flat class k with s ; meter n flat class k with t ; smears 1 ;");
+        Check.due("it parts nobody", -1, u.ask());
+        Check.due("it is no slot that is left", 0, Check.told("slots 2 ; feeder 0 0 7 ;").days(1, 1, 1));
         FeederShares y = Check.told("slots 3 ; feeder 5 ;");
         Check.due("told", 5, y.residual(0));
         Check.due("not told", 0, y.residual(1));

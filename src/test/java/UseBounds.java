@@ -257,6 +257,14 @@ final class UseBounds {
         shares(1, new int[] {1, 2, 2}, 0, 1, 0);
         shares(3, new int[] {1, 2, 2}, 1, 1, 1);
         shares(2, new int[] {1, 2, 2}, 0, 1, 1);
+        FeederShares x = Check.told("slots 1 ; feeder 18 ; class a loss 0 profile 0 ; class b loss 0 profile 0 ; supplier s ; "
+                + "meter m flat class b with s ; meter n flat class b with s ; meter o flat class b with s ; meter p flat class a with s ; smears 1 ;");
+        x.read(0, 0, 5);
+        x.read(1, 0, 4);
+        x.read(2, 0, 4);
+        // 5 by 1 and 1: 2.5 each; b's 2 by 5, 4 and 4: 0.76, 0.61 and 0.61
+        nets("asked once", x, 6, 5, 4, 3);
+        nets("what was cut off from meters is not cut off from classes", x, 6, 5, 4, 3);
     }
 
     private static void withItsSign() {
