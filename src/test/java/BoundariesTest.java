@@ -5,8 +5,9 @@ public final class BoundariesTest {
     private BoundariesTest() {
     }
 
-    public static void main(String[] args) throws IOException {
+    public static void main(String[] args) throws IOException, IllegalAccessException {
         Sentences.open();
+        FirstBounds.all();
         Sentences.asksNothing("## Terms");
         TapeBounds.all();
         FaultBounds.all();

@@ -1,5 +1,4 @@
 import java.io.IOException;
-import java.lang.reflect.Constructor;
 import java.lang.reflect.Field;
 import java.lang.reflect.Method;
 import java.lang.reflect.Modifier;
@@ -15,49 +14,6 @@ import java.util.regex.Pattern;
 
 /** The rules of LANGUAGE.md that can be seen from the class and its text. */
 public final class LanguageTest {
-    private static final String FACE = """
-            int feed(long, long, long)
-            int grid()
-            int work()
-            int meter(int, int)
-            int with(int, int)
-            int says(int, int)
-            int read(int, int, int)
-            int move(int, int, int)
-            int total(int, int)
-            int run()
-            boolean undo()
-            int judged(int) NoSuchElementException
-            int use(int, int) NoSuchElementException
-            int gross(int, int) NoSuchElementException
-            int load(int, int) NoSuchElementException
-            int residual(int) NoSuchElementException
-            int smear(int, int) NoSuchElementException
-            int net(int, int) NoSuchElementException
-            int share(int, int) NoSuchElementException
-            int sum(int) NoSuchElementException
-            int gaps(int)
-            int stands(int, int)
-            int proof(int) NoSuchElementException
-            int worst()
-            int lost()
-            int settled(int, int, int) NoSuchElementException
-            int difference(int, int, int) NoSuchElementException
-            int drift(int) NoSuchElementException
-            int accounts()
-            int account(int, int) NoSuchElementException
-            int owes(int, int) NoSuchElementException
-            int swing(int, int, int, int) NoSuchElementException
-            int gains(int, int) NoSuchElementException
-            int bears(int)
-            int heaviest()
-            boolean see(int, int, boolean)
-            int who()
-            int ask()
-            int days(int, int, int) NoSuchElementException
-            boolean mark(int, boolean)
-            int count(int)
-            """;
     private static final String[] RULED_OUT = {"->", "::", "\\bfinally\\b", "\\bsynchronized\\b", "\\bassert\\b", "\\bcatch\\b",
         "\\btry\\b", "Exact\\(", "\\bdouble\\b", "\\bfloat\\b", "\\bSystem\\b", "\\bString\\.", "\\bInteger\\.(?!bitCount\\b|compare\\b|MAX|MIN)",
         "\\bequals\\(", "\\bhashCode\\b", "\\btoString\\b", "\\brecord\\b", "static \\{", "\\bArrays\\b", "\\bordinal\\b"};
@@ -69,7 +25,7 @@ public final class LanguageTest {
         System.out.println(what);
     }
 
-    public static void main(String[] args) throws IOException {
+    public static void main(String[] args) throws IOException, IllegalAccessException {
         face();
         insides();
         text();
@@ -77,41 +33,24 @@ public final class LanguageTest {
         System.exit(wrong == 0 ? 0 : 1);
     }
 
-    private static void face() {
-        Set<String> due = new TreeSet<>(List.of(FACE.strip().split("\n")));
-        Set<String> got = new TreeSet<>();
+    private static void face() throws IllegalAccessException {
+        Set<String> due = new TreeSet<>();
+        for (String line : Face.LINES) {
+            due.add(Face.withoutNames(line));
+        }
+        Set<String> got = Face.ofTheClass();
+        if (!due.equals(got)) {
+            say("the face is " + got);
+        }
         Set<String> names = new TreeSet<>();
         for (Method m : FeederShares.class.getDeclaredMethods()) {
             if (Modifier.isPublic(m.getModifiers())) {
-                List<String> types = new ArrayList<>();
-                for (Class<?> type : m.getParameterTypes()) {
-                    types.add(type.getSimpleName());
-                }
-                StringBuilder b = new StringBuilder(m.getReturnType().getSimpleName() + " " + m.getName() + "(" + String.join(", ", types) + ")");
-                for (Class<?> e : m.getExceptionTypes()) {
-                    b.append(' ').append(e.getSimpleName());
-                }
-                got.add(b.toString());
                 names.add(m.getName());
-            } else if (!Modifier.isPrivate(m.getModifiers())) {
-                say(m + " is not private");
             }
-        }
-        if (!due.equals(got)) {
-            say("the face is " + got);
         }
         privates(FeederShares.class, names);
         for (Class<?> inside : FeederShares.class.getDeclaredClasses()) {
             privates(inside, names);
-        }
-        for (Field f : FeederShares.class.getDeclaredFields()) {
-            if (!f.getName().equals("NONE") && !Modifier.isPrivate(f.getModifiers())) {
-                say(f + " is not private");
-            }
-        }
-        Constructor<?>[] makers = FeederShares.class.getDeclaredConstructors();
-        if (makers.length != 1 || !Modifier.isPublic(makers[0].getModifiers()) || makers[0].getParameterCount() != 0) {
-            say("there must be one constructor, public and without parameters");
         }
     }
 

@@ -116,7 +116,7 @@ final class TriedBounds {
     }
 
     /** The count of BOOKS is the seventh number of the first line. */
-    private static String withoutBooks(FeederShares x) {
+    static String withoutBooks(FeederShares x) {
         return Snapshot.of(x).replaceFirst("^((?:\\S+ ){6})\\S+", "$1-");
     }
 
